@@ -13,6 +13,8 @@ public final class OnceOnly {
     // A power of two that no WINDOW exceeds: the last bits of a NUMBER are then a safe index,
     // and no two NUMBERS of one WINDOW share a slot.
     private static final int SLOTS = 16, SLOT_MASK = 15;
+    // Likewise, above the most LETTERS.
+    private static final int RING = 128, RING_MASK = 127;
 
     private static final int READ = 0, ADD = 1, MOVE = 2, FAR = 3, CANCEL = 4;
     private static final int IS_OPEN = 0, IS_ANSWERED = 1, IS_OVER = 2;
@@ -30,7 +32,7 @@ public final class OnceOnly {
 
     public OnceOnly(int window) {
         this.window = Math.max(1, Math.min(MOST_WINDOW, window));
-        for (int name = 0; name < NAMES; name++) ends[name] = new End(name, this.window);
+        for (int name = 0; name < NAMES; name++) ends[name] = new End(name);
         for (int server = 0; server < SERVERS; server++) servers[server] = new Server(this.window);
     }
 
@@ -279,7 +281,8 @@ public final class OnceOnly {
 
     /** Null if there is no room, among ASKS or in the WINDOW. */
     private Ask newAsk(End end, int server, int kind, int a, int b, int t, int amount) {
-        if (askCount < 0 || askCount >= asks.length || !end.mayAsk()) return null;
+        if (askCount < 0 || askCount >= asks.length) return null;
+        if (end.next - end.lowestOpen() >= window) return null;
         Ask made = new Ask(askCount, end.name, end.life, end.next);
         made.server = server;
         made.kind = kind;
@@ -322,20 +325,23 @@ public final class OnceOnly {
         Letter letter = row.take(i);
         if (letter == null || letter.ask == null) return 0;
         row.came++;
-        End end = endOf(letter.reply ? letter.ask.name : ASKERS + letter.ask.server);
+        Ask ask = letter.ask;
+        End end = endOf(letter.reply ? ask.name : ASKERS + ask.server);
         if (end == null || !end.up) return 0;
         int left = 0;
-        if (moment != AS_IT_COMES && !letter.bent) left = heed(end, letter, letter.ask, moment);
+        if (moment != AS_IT_COMES && !letter.bent) {
+            if (!letter.reply) left = serve(letter, ask, moment);
+            else if (end.name < ASKERS) hear(letter, ask);
+            else left = finishFar(letter, ask, moment);
+        }
         if (moment != UNFALLEN) bringDown(end);
         return left;
     }
 
-    private int heed(End end, Letter letter, Ask ask, int moment) {
-        if (!letter.reply) return serve(letter, ask, moment);
-        if (end.name >= ASKERS) return finishFar(letter, ask, moment);
-        if (ask.state == IS_OPEN && letter.over) ask.state = IS_OVER;
-        if (ask.state == IS_OPEN) ask.close(letter.answer);
-        return 0;
+    private void hear(Letter letter, Ask ask) {
+        if (ask.state != IS_OPEN) return;
+        if (letter.over) ask.state = IS_OVER;
+        else ask.close(letter.answer);
     }
 
     private int serve(Letter letter, Ask ask, int moment) {
@@ -362,22 +368,14 @@ public final class OnceOnly {
 
     private int act(Server server, Memory memory, Ask ask, boolean leaves) {
         if (ask.kind == READ) return sendAnswer(ask, server.has(ask.a), leaves);
-        if (ask.kind == FAR && beginFar(server, ask)) {
-            memory.write(ask.number, MIDST, 0);
-            return sendAsk(ask.own, leaves);
-        }
-        long answer = perform(server, memory, ask);
+        Ask own = ask.kind == FAR ? beginFar(server, memory, ask) : null;
+        if (own != null) return sendAsk(own, leaves);
+        long answer = NOT_LET;
+        if (ask.kind == ADD) answer = add(server, ask);
+        if (ask.kind == MOVE) answer = move(server, ask);
+        if (ask.kind == CANCEL) answer = cancel(memory, ask);
         memory.write(ask.number, DONE, answer);
         return sendAnswer(ask, answer, leaves);
-    }
-
-    private long perform(Server server, Memory memory, Ask ask) {
-        switch (ask.kind) {
-            case ADD: return add(server, ask);
-            case MOVE: return move(server, ask);
-            case CANCEL: return cancel(memory, ask);
-            default: return NOT_LET;
-        }
     }
 
     private long add(Server server, Ask ask) {
@@ -407,17 +405,18 @@ public final class OnceOnly {
         return 1;
     }
 
-    /** False if it is NOT LET. */
-    private boolean beginFar(Server server, Ask far) {
+    /** The own ASK; null if the FAR is NOT LET. */
+    private Ask beginFar(Server server, Memory memory, Ask far) {
         End end = endOf(ASKERS + far.server);
-        if (end == null || !server.lets(far.a, -far.amount)) return false;
+        if (end == null || !server.lets(far.a, -far.amount)) return null;
         Ask own = newAsk(end, far.t, ADD, far.b, far.b, far.t, far.amount);
-        if (own == null) return false;
+        if (own == null) return null;
         server.change(far.a, -far.amount);
+        memory.write(far.number, MIDST, 0);
         own.far = far;
         far.own = own;
         far.done = true;
-        return true;
+        return own;
     }
 
     /** An ANSWER's LETTER comes to a SERVER. */
@@ -521,25 +520,21 @@ public final class OnceOnly {
 
     /** An ASKER or a SERVER, as one that asks by its NAME. */
     private static final class End {
-        final int name, window;
+        final int name;
         boolean up = true;
         int life = 1, next = 1;
         // No ASK of the LIFE below it is OPEN; it only moves up, as no ASK opens again.
         private int lowest = 1;
+        // The last ones; one that is OPEN is among them, as the WINDOW is no longer than the row.
         private final Ask[] asked = new Ask[SLOTS];
 
-        End(int name, int window) {
+        End(int name) {
             this.name = name;
-            this.window = window;
         }
 
         int lowestOpen() {
-            while (lowest < next && openBy(lowest) == null) lowest++;
+            while (lowest < next && !isOpen(asked[lowest & SLOT_MASK])) lowest++;
             return lowest;
-        }
-
-        boolean mayAsk() {
-            return next - lowestOpen() < window;
         }
 
         void keep(Ask made) {
@@ -548,18 +543,17 @@ public final class OnceOnly {
         }
 
         void beginLife() {
-            for (int number = lowestOpen(); number < next; number++) {
-                Ask open = openBy(number);
-                if (open != null) open.state = IS_OVER;
+            for (int i = 0; i < SLOTS; i++) {
+                Ask last = asked[i];
+                if (last != null && isOpen(last)) last.state = IS_OVER;
             }
             life++;
             next = 1;
             lowest = 1;
         }
 
-        private Ask openBy(int number) {
-            Ask found = asked[number & SLOT_MASK];
-            return found != null && found.number == number && found.state == IS_OPEN ? found : null;
+        private static boolean isOpen(Ask ask) {
+            return ask != null && ask.state == IS_OPEN;
         }
     }
 
@@ -618,7 +612,7 @@ public final class OnceOnly {
 
         void write(int number, int state, long answer) {
             if (!isWithin(number)) return;
-            if (stateOf(number) == NO_RECORD) records++;
+            if (states[number & SLOT_MASK] == NO_RECORD) records++;
             states[number & SLOT_MASK] = state;
             answers[number & SLOT_MASK] = answer;
         }
@@ -644,7 +638,7 @@ public final class OnceOnly {
         }
 
         private void forget(int number) {
-            if (stateOf(number) != NO_RECORD) records--;
+            if (states[number & SLOT_MASK] != NO_RECORD) records--;
             states[number & SLOT_MASK] = NO_RECORD;
         }
     }
@@ -686,44 +680,47 @@ public final class OnceOnly {
         }
     }
 
-    /** The LETTERS under way; the objects behind them are idle ones, used again. */
+    /** The LETTERS under way, in a ring of objects that are used again. */
     private static final class Row {
         int under, came, lost;
-        private final Letter[] letters = new Letter[MOST_LETTERS];
-        // The one that was taken is read here while its place is already another's.
-        private final Letter hand = new Letter();
+        private int first;
+        private final Letter[] ring = new Letter[RING];
 
         Row() {
-            for (int i = 0; i < MOST_LETTERS; i++) letters[i] = new Letter();
+            for (int i = 0; i < RING; i++) ring[i] = new Letter();
         }
 
         boolean isFull() {
-            return under >= letters.length;
+            return under >= MOST_LETTERS;
         }
 
         Letter at(int i) {
-            return i >= 0 && i < under && i < letters.length ? letters[i] : null;
+            return i >= 0 && i < under ? ring[slot(i)] : null;
         }
 
         /** A place behind the others; null, and one more is lost, if there is no room. */
         Letter fresh() {
-            if (under < 0 || isFull()) {
+            if (isFull()) {
                 lost++;
                 return null;
             }
             under++;
-            return letters[under - 1];
+            return ring[slot(under - 1)];
         }
 
+        /** It stays whole until some others have come behind the row, as the ring has places to spare. */
         Letter take(int i) {
             Letter taken = at(i);
             if (taken == null) return null;
-            hand.become(taken);
-            int last = Math.min(under, letters.length) - 1;
-            for (int j = i; j < last; j++) letters[j] = letters[j + 1];
-            letters[last] = taken;
-            under = last;
-            return hand;
+            for (int j = i; j > 0; j--) ring[slot(j)] = ring[slot(j - 1)];
+            ring[slot(0)] = taken;
+            first = slot(1);
+            under--;
+            return taken;
+        }
+
+        private int slot(int i) {
+            return (first + i) & RING_MASK;
         }
     }
 }

@@ -7,6 +7,7 @@ public final class LettersTest {
         deliver();
         momentsOfServer();
         momentOneKeepsWhatIsLearnt();
+        momentsOfOver();
         momentsOfFar();
         momentsOfFarsAnswer();
         momentsOfAsker();
@@ -104,6 +105,28 @@ public final class LettersTest {
         Due.due("of a new LIFE, ahead of the writing", x.deliver(0, 1), 0);
         Due.kept(x, 0, 0, 2, 1, 0);
         Due.due("still not done", x.account(0, 0), 7);
+    }
+
+    private static void momentsOfOver() {
+        Due.promise(7);
+        for (int moment = 0; moment < 4; moment++) {
+            OnceOnly x = Due.withMoney(4, 0, 1);
+            x.leave(0, 0);
+            x.ask(0, 0, Due.ADD, 0, 0, 0, 5);
+            Due.due("one of an older LIFE", x.deliver(0, moment), moment == 3 ? 1 : 0);
+            Due.due("LETTERS", x.count(2), moment == 3 ? 1 : 0);
+            Due.kept(x, 0, 0, 2, 1, 0);
+            x.lose(0);
+            x.rise(6);
+            x.again(1);
+            x.deliver(0, 3);
+            Due.due("its OVER comes to the ASKER", x.deliver(0, moment), 0);
+            Due.due("told(1, 5)", x.told(1, 5), moment == 0 ? Due.IS_OPEN : Due.IS_OVER);
+            x.rise(0);
+            x.ask(1, 0, Due.ADD, 0, 0, 0, 7);
+            x.flow(200);
+            Due.due("the next ANSWER is no OVER", x.answer(2), 8);
+        }
     }
 
     private static void momentsOfFar() {

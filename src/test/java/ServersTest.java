@@ -322,6 +322,7 @@ public final class ServersTest {
         x.fall(6);
         Due.due("down, BAD", x.leave(0, 6), Due.BAD);
         Due.due("down", x.leave(0, 5), Due.STATE);
+        for (int server = 1; server < 4; server++) Due.due("others are up", x.leave(server, 0), 0);
         x.rise(6);
         x.fall(5);
         Due.due("leave", x.leave(0, 5), 2);
@@ -447,7 +448,9 @@ public final class ServersTest {
         Due.due("count(-1)", x.count(-1), Due.BAD);
         Due.due("count(8)", x.count(8), Due.BAD);
         x.ask(0, 0, Due.ADD, 0, 0, 0, 10);
+        Due.due("OPEN", x.count(1), 1);
         x.flow(200);
+        Due.due("none is OPEN", x.count(1), 0);
         x.ask(0, 0, Due.FAR, 0, 0, 3, 10);
         x.deliver(0, 3);
         x.ask(1, 2, Due.CANCEL, 0, 0, 0, 2);
