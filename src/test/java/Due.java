@@ -5,7 +5,7 @@ final class Due {
     static final int IS_OPEN = 0, IS_ANSWERED = 1, IS_OVER = 2;
     static final int NO_RECORD = 0, DONE = 1, MIDST = 2, CANCELLED = 3;
 
-    private static int part = 0;
+    private static String part = "";
     private static int calls = 0;
     private static int wrong = 0;
 
@@ -13,14 +13,19 @@ final class Due {
     }
 
     static void promise(int number) {
-        part = number;
+        part = "promise " + number;
+    }
+
+    /** Words of the document: the answers that follow hold the bounds that they name. */
+    static void sentence(String words) {
+        part = "\"" + words + "\"";
     }
 
     static void due(String call, long got, long want) {
         calls++;
         if (got == want) return;
         wrong++;
-        System.out.println("promise " + part + ": " + call + " answered " + got + ", due is " + want);
+        System.out.println(part + ": " + call + " answered " + got + ", due is " + want);
     }
 
     static void end(String test) {
@@ -63,6 +68,20 @@ final class Due {
         OnceOnly x = withMoney(8, 0, 100);
         due("the FAR", x.ask(0, 0, FAR, 0, 2, t, 30), 1);
         return x;
+    }
+
+    /** ASKER 0 asks SERVER 0, with SERVER 1 as t; all LETTERS come, and the ANSWER is looked at: the number of the ASK. */
+    static int asks(OnceOnly x, int kind, int a, int b, int amount, long answer) {
+        int ask = x.ask(0, 0, kind, a, b, 1, amount);
+        x.flow(200);
+        due("kind " + kind + ", " + a + ", " + b + ", " + amount, x.answer(ask), answer);
+        return ask;
+    }
+
+    /** Numbers outside of what is told: next to its bounds, and at the ends of int. */
+    static int[] outside(int least, int most) {
+        return new int[] {least - 1, most + 1, Integer.MIN_VALUE, Integer.MIN_VALUE + 1, Integer.MAX_VALUE - 1,
+            Integer.MAX_VALUE};
     }
 
     static void due(OnceOnly x, int letter, int ask, int reply, int lowest, int bent, int over) {

@@ -46,37 +46,30 @@ public final class ServersTest {
         for (int[] b : bad) Due.due("account(" + b[0] + ", " + b[1] + ")", x.account(b[0], b[1]), Due.BAD);
     }
 
-    /** Asks, lets the LETTER and its ANSWER come, and looks at the ANSWER. */
-    private static void asks(OnceOnly x, int kind, int a, int b, int amount, long answer) {
-        int ask = x.ask(0, 0, kind, a, b, 1, amount);
-        x.flow(200);
-        Due.due("kind " + kind + ", " + a + ", " + b + ", " + amount, x.answer(ask), answer);
-    }
-
     private static void adds() {
         Due.promise(15);
         OnceOnly x = new OnceOnly(4);
-        asks(x, Due.ADD, 2, 0, 0, 0);
-        asks(x, Due.ADD, 2, 0, 10, 10);
-        asks(x, Due.ADD, 2, 0, -4, 6);
-        asks(x, Due.ADD, 2, 0, -7, -1);
+        Due.asks(x, Due.ADD, 2, 0, 0, 0);
+        Due.asks(x, Due.ADD, 2, 0, 10, 10);
+        Due.asks(x, Due.ADD, 2, 0, -4, 6);
+        Due.asks(x, Due.ADD, 2, 0, -7, -1);
         Due.due("an ADD NOT LET has a RECORD", x.record(0, 0, 4), Due.DONE);
-        asks(x, Due.ADD, 2, 0, -6, 0);
-        asks(x, Due.ADD, 2, 0, -1, -1);
+        Due.asks(x, Due.ADD, 2, 0, -6, 0);
+        Due.asks(x, Due.ADD, 2, 0, -1, -1);
         Due.due("account", x.account(0, 2), 0);
     }
 
     private static void moves() {
         Due.promise(15);
         OnceOnly x = new OnceOnly(4);
-        asks(x, Due.ADD, 1, 0, 10, 10);
-        asks(x, Due.MOVE, 1, 2, 11, -1);
-        asks(x, Due.MOVE, 1, 2, 4, 6);
+        Due.asks(x, Due.ADD, 1, 0, 10, 10);
+        Due.asks(x, Due.MOVE, 1, 2, 11, -1);
+        Due.asks(x, Due.MOVE, 1, 2, 4, 6);
         Due.due("b", x.account(0, 2), 4);
-        asks(x, Due.MOVE, 1, 2, 6, 0);
+        Due.asks(x, Due.MOVE, 1, 2, 6, 0);
         Due.due("b", x.account(0, 2), 10);
-        asks(x, Due.MOVE, 1, 2, 0, 0);
-        asks(x, Due.MOVE, 2, 2, 1000000, 10);
+        Due.asks(x, Due.MOVE, 1, 2, 0, 0);
+        Due.asks(x, Due.MOVE, 2, 2, 1000000, 10);
         Due.due("a and b one: let, and done", x.times(5), 1);
         Due.due("but nothing is more or less", x.account(0, 2), 10);
     }
@@ -84,8 +77,8 @@ public final class ServersTest {
     private static void reads() {
         Due.promise(15);
         OnceOnly x = new OnceOnly(4);
-        asks(x, Due.ADD, 3, 0, 10, 10);
-        asks(x, Due.READ, 3, 0, -5, 10);
+        Due.asks(x, Due.ADD, 3, 0, 10, 10);
+        Due.asks(x, Due.READ, 3, 0, -5, 10);
         Due.due("a READ has no RECORD", x.record(0, 0, 2), Due.NO_RECORD);
         int read = x.ask(0, 0, Due.READ, 3, 0, 0, 0);
         x.twice(0);
@@ -125,13 +118,13 @@ public final class ServersTest {
     private static void farsNotLet() {
         Due.promise(15);
         OnceOnly x = new OnceOnly(4);
-        asks(x, Due.ADD, 0, 0, 10, 10);
-        asks(x, Due.FAR, 0, 3, 11, -1);
+        Due.asks(x, Due.ADD, 0, 0, 10, 10);
+        Due.asks(x, Due.FAR, 0, 3, 11, -1);
         Due.due("a RECORD", x.record(0, 0, 2), Due.DONE);
         Due.due("no own ASK", x.told(1, 7), Due.NONE);
-        asks(x, Due.FAR, 0, 3, 10, 0);
+        Due.asks(x, Due.FAR, 0, 3, 10, 0);
         Due.due("b", x.account(1, 3), 10);
-        asks(x, Due.FAR, 0, 3, 0, 0);
+        Due.asks(x, Due.FAR, 0, 3, 0, 0);
         Due.due("done", x.times(4), 1);
     }
 
@@ -237,18 +230,18 @@ public final class ServersTest {
         Due.promise(17);
         OnceOnly x = new OnceOnly(3);
         x.ask(0, 0, Due.ADD, 0, 0, 0, 9);
-        asks(x, Due.CANCEL, 0, 0, 1, 0);
-        asks(x, Due.CANCEL, 0, 0, 3, 0);
-        asks(x, Due.CANCEL, 0, 0, 1, 0);
+        Due.asks(x, Due.CANCEL, 0, 0, 1, 0);
+        Due.asks(x, Due.CANCEL, 0, 0, 3, 0);
+        Due.asks(x, Due.CANCEL, 0, 0, 1, 0);
         Due.due("LOW", x.kept(0, 0, 1), 4);
-        asks(x, Due.CANCEL, 0, 0, 7, 1);
+        Due.asks(x, Due.CANCEL, 0, 0, 7, 1);
         Due.due("of LOW 5 and 2", x.record(0, 0, 7), Due.CANCELLED);
-        asks(x, Due.CANCEL, 0, 0, 9, 3);
+        Due.asks(x, Due.CANCEL, 0, 0, 9, 3);
         Due.due("of LOW 6 and 3", x.record(0, 0, 9), Due.NO_RECORD);
-        asks(x, Due.READ, 0, 0, 0, -2);
-        asks(x, Due.CANCEL, 0, 0, 1000000, 3);
-        asks(x, Due.CANCEL, 0, 0, 9, 0);
-        asks(x, Due.CANCEL, 0, 0, 9, 0);
+        Due.asks(x, Due.READ, 0, 0, 0, -2);
+        Due.asks(x, Due.CANCEL, 0, 0, 1000000, 3);
+        Due.asks(x, Due.CANCEL, 0, 0, 9, 0);
+        Due.asks(x, Due.CANCEL, 0, 0, 9, 0);
         x = Due.withFar(1);
         x.deliver(0, 3);
         x.ask(0, 0, Due.CANCEL, 0, 0, 0, 2);
