@@ -19,6 +19,7 @@ public final class EndsEdgesTest {
         lowestOfAServer();
         reads();
         adds();
+        addsOfAllAskers();
         moves();
         movesWithinOne();
         movesFillB();
@@ -292,6 +293,21 @@ public final class EndsEdgesTest {
         Due.asks(x, Due.ADD, 0, 1, -1000000, -1);
         Due.due("b is not in it", x.account(0, 1), 0);
         Due.due("nor is t", x.account(1, 0), 0);
+    }
+
+    private static void addsOfAllAskers() {
+        Due.sentence("An ADD of an ASKER .. that would make an ACCOUNT less than 0");
+        for (int asker = 0; asker < 6; asker++) {
+            for (int server = 0; server < 4; server++) {
+                OnceOnly x = Due.withMoney(4, server, 10);
+                int[] amounts = {-11, -10, -1, 0};
+                for (int amount : amounts) x.ask(asker, server, Due.ADD, 0, 0, 0, amount);
+                x.flow(200);
+                long[] answers = {-1, 0, -1, 0};
+                for (int i = 0; i < 4; i++) Due.due("ADD of " + amounts[i], x.answer(1 + i), answers[i]);
+                Due.due("account", x.account(server, 0), 0);
+            }
+        }
     }
 
     private static void moves() {

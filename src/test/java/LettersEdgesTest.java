@@ -8,6 +8,8 @@ public final class LettersEdgesTest {
         rowOf120InDeliver();
         rowOf120OfFars();
         newOnesComeBehind();
+        newOnesAreWhole();
+        doublesAreWhole();
         lowestAsItIsSent();
         lowestOfOwnAsks();
         answersHaveNoLowest();
@@ -113,6 +115,65 @@ public final class LettersEdgesTest {
             Due.due("behind the last", x.letter(rows[step].length, 0), Due.NONE);
         }
         Due.due("an ASK's", x.letter(1, 1), 0);
+    }
+
+    /** As many LETTERS as a row can hold were BENT, and ANSWERS that are OVER: none that is sent later is. */
+    private static void newOnesAreWhole() {
+        Due.sentence("An ASK's LETTER has its ASK, and LOWEST .. An ANSWER's LETTER has its ASK, and an ANSWER or OVER");
+        OnceOnly x = new OnceOnly(1);
+        x.leave(0, 0);
+        x.leave(0, 0);
+        x.ask(0, 0, Due.ADD, 0, 0, 0, 1);
+        x.ask(1, 0, Due.ADD, 0, 0, 0, 5);
+        x.twice(0);
+        x.deliver(0, 3);
+        x.lose(1);
+        Due.due(x, 1, 0, 1, Due.NONE, 0, 1);
+        Due.due("it is BENT", x.bend(1), 1);
+        for (int i = 2; i < 120; i++) x.twice(1);
+        Due.due("count(2)", x.count(2), 120);
+        for (int i = 1; i < 120; i++) x.lose(1);
+        Due.due("one is left", x.count(2), 1);
+        for (int i = 0; i < 10; i++) {
+            Due.due("again", x.again(1), 2);
+            Due.due(x, 1, 1, 0, 1, 0, 0);
+            Due.due("it comes", x.deliver(1, 3), 1);
+            Due.due(x, 1, 1, 1, Due.NONE, 0, 0);
+            x.lose(1);
+        }
+        Due.due("done once", x.account(0, 0), 5);
+        x.again(0);
+        x.deliver(1, 3);
+        Due.due(x, 1, 0, 1, Due.NONE, 0, 1);
+    }
+
+    private static void doublesAreWhole() {
+        Due.sentence("Another one just like LETTER i comes behind");
+        OnceOnly x = Due.withMoney(2, 0, 100);
+        x.ask(0, 0, Due.MOVE, 0, 1, 0, 30);
+        x.deliver(0, 3);
+        x.twice(0);
+        x.lose(0);
+        Due.due("the double of an ANSWER's", x.deliver(0, 3), 0);
+        Due.due("brings that ANSWER", x.answer(1), 70);
+        x.ask(0, 0, Due.FAR, 0, 0, 1, 20);
+        x.twice(0);
+        x.lose(0);
+        Due.due("the double of a FAR's", x.deliver(0, 3), 1);
+        x.deliver(0, 3);
+        x.twice(0);
+        x.lose(0);
+        Due.due("the double of an ANSWER's to a SERVER", x.deliver(0, 3), 1);
+        Due.due("brings that ANSWER", x.answer(3), 20);
+        x.leave(0, 0);
+        x.again(2);
+        x.deliver(1, 3);
+        x.twice(1);
+        x.lose(0);
+        x.lose(0);
+        Due.due(x, 0, 2, 1, Due.NONE, 0, 1);
+        x.deliver(0, 3);
+        Due.due("the double of an OVER", x.told(2, 5), Due.IS_OVER);
     }
 
     private static void lowestAsItIsSent() {
